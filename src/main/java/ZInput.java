@@ -39,12 +39,15 @@ public final class ZInput {
     private int ended;
 
     public ZInput(int version) {
-        this.version = version >= 1 && version <= 8 ? version : 5;
-        this.memory = new Memory();
-        this.packer = new Packer(this.memory, this.version);
-        this.dictionary = new Dictionary(this.memory, this.packer.octets);
-        this.parser = new Parser(this.memory, this.packer, this.dictionary,
-                this.version >= FIRST_VERSION_THAT_COUNTS);
+        int v = version >= 1 && version <= 8 ? version : 5;
+        Memory octets = new Memory();
+        Packer words = new Packer(octets, v);
+        Dictionary entries = new Dictionary(octets, words.octets);
+        this.version = v;
+        this.memory = octets;
+        this.packer = words;
+        this.dictionary = entries;
+        this.parser = new Parser(octets, words, entries, v >= FIRST_VERSION_THAT_COUNTS);
         this.reading = new Reading();
         this.clock = new Clock();
         this.lines = new Lines();

@@ -251,6 +251,17 @@ final class DictionaryTest {
         z.put(3500, 5, 0x03616263_00L);
         text(z, 5, "abcabcd");
         DUE.is("parse, letters being SEPARATORS", z.parse(T, P, 3500, false), 7);
+        z = new ZInput(5);
+        dictionary(z, "\0\u00ff", 'a');
+        text(z, 5, "x\0y\u00ffza\u00fe");
+        z.put(P, 1, 20L);
+        DUE.is("parse, the lowest and the highest CODE being SEPARATORS", z.parse(T, P, D, false), 5);
+        DUE.octets(z, P + 1, 5, 0, 0, 1, 2, 0, 0, 1, 3, 0, 0, 1, 4, 0, 0, 1, 5, 0, 0, 3, 6, 0);
+        dictionary(z, ",", 6);
+        text(z, 5, "ab\0,");
+        z.put(T + 1, 1, 3L);
+        DUE.is("parse, a SEPARATOR behind the TEXT, 0 being none any more", z.parse(T, P, D, false), 1);
+        DUE.octets(z, P + 1, 1, 0, 0, 3, 2);
     }
 
     private static void parseTellsTheFirst() {
@@ -370,6 +381,12 @@ final class DictionaryTest {
         DUE.is("parse, the WORDS end behind", z.parse(T, 4000, 0, false), ZInput.OUTSIDE);
         DUE.is("parse with the flag, the WORDS end behind", z.parse(T, 4000, 0, true), ZInput.OUTSIDE);
         DUE.octets(z, 4000, 24, 77);
+        z.put(3998, 1, 24L);
+        DUE.is("parse, the last octet is MEMORY's last", z.parse(T, 3998, 0, false), 30);
+        DUE.octets(z, 4092, 0, 0, 1, 48);
+        z.put(3999, 1, 24L);
+        DUE.is("parse, the last octet alone is behind MEMORY", z.parse(T, 3999, 0, false), ZInput.OUTSIDE);
+        z.put(4000, 2, 24 * 256 + 77);
         text(z, 5, "a ".repeat(23));
         DUE.is("parse, fewer WORDS", z.parse(T, 4000, 0, false), 23);
         z.put(T + 1, 1, 0L);

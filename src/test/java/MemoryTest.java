@@ -43,7 +43,7 @@ final class MemoryTest {
         z.begin(200, 300);
         Due.press(z, "a\r");
         DUE.octets(z, 300, 5, 1, 0, 4, 1, 2);
-        Due.lay(z, 0, 255);
+        Due.lay(z, 0, 255, 255, 255);
         Due.lay(z, 201, 0);
         z.begin(200, 0);
         DUE.is("key(254)", z.key(254), 0);
