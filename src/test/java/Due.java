@@ -1,6 +1,13 @@
+import java.io.IOException;
+import java.nio.file.Files;
+import java.nio.file.Path;
+
 /** Counts the calls whose answer is not the one that is due, and prints them. */
 final class Due {
+    private static final Path DOCUMENT = Path.of("../shared/DOC.md");
+
     private final String test;
+    private String document = "";
     private String run = "";
     private int wrong = 0;
 
@@ -10,6 +17,23 @@ final class Due {
 
     void run(String name) {
         run = name;
+    }
+
+    /** A run that tests one sentence, in the document's own words; one that is not there is wrong, too. */
+    void sentence(String words) {
+        run("'" + words + "'");
+        is("the document has it", document().contains(words) ? 1 : 0, 1);
+    }
+
+    private String document() {
+        if (document.isEmpty()) {
+            try {
+                document = Files.readString(DOCUMENT).replaceAll("\\s+", " ");
+            } catch (IOException e) {
+                document = "no document: " + e;
+            }
+        }
+        return document;
     }
 
     void is(String call, long got, long want) {
