@@ -46,10 +46,11 @@ final class ClockEdgesTest {
         z.key('a');
         z.key(8);
         DUE.is("tick(1)", z.tick(1), 1);
-        // The next READ counts from its own beginning.
+        // The next READ has none till it is told, and counts from then on.
         z.tick(2);
         z.key(13);
         Setting.again(z, 0);
+        DUE.is("tick(8), none told in this READ", z.tick(8), 0);
         z.timed(3, 0);
         DUE.is("tick(2), the next READ", z.tick(2), 0);
         DUE.is("tick(1), the next READ", z.tick(1), 1);

@@ -56,6 +56,11 @@ final class DictionaryEdgesTest {
         Setting.dictionary(z, D, ",", 6, "a");
         DUE.is("look, one", z.look(FROM, 1, D), D + 5);
         parses(z, 5, "a,a", 3);
+        Setting.dictionary(z, D, "\0", 6, "a");
+        parses(z, 5, "a\0a,a", 3);
+        // What other DICTIONARIES had is none of this one's.
+        Setting.dictionary(z, D, "", 6, "a");
+        parses(z, 5, "a\0a,a", 1);
         StringBuilder all = new StringBuilder();
         for (int code = 1; code <= 255; code++) {
             all.append((char) code);
@@ -172,6 +177,11 @@ final class DictionaryEdgesTest {
         z.put(T + 1, 1, 3L);
         DUE.is("parse, 3 of them", z.parse(T, P, D, false), 1);
         tells(z, 0, 3, 2);
+        for (int code : new int[] {' ', ',', 'a'}) {
+            z.put(T + 5, 1, code);
+            DUE.is("parse, before " + code, z.parse(T, P, D, false), 1);
+            tells(z, 0, 3, 2);
+        }
     }
 
     private static void firstEntry() {

@@ -82,6 +82,12 @@ final class PackedEdgesTest {
     private static void rows() {
         DUE.sentence("THE ROW is 0123456789.,!?_#'\"/\\&lt;-:() in V 1, "
                 + "from V 2 on the CODE 13, then 0123456789.,!?_#'\"/\\-:().");
+        for (int version = 1; version <= 8; version++) {
+            String row = version == 1 ? "0123456789.,!?_#'\"/\\<-:()" : "\r0123456789.,!?_#'\"/\\-:()";
+            for (int place = 0; place < 25; place++) {
+                letters(version, row.substring(place, place + 1), version <= 2 ? 3 : 5, place + 7);
+            }
+        }
         letters(1, "\r", 3, 6, 0, 13);
         letters(1, "\\<-", 3, 26, 3, 27, 3, 28);
         letters(1, "&", 3, 6, 1, 6);

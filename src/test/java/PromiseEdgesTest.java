@@ -96,7 +96,7 @@ final class PromiseEdgesTest {
             z.key('a');
             z.key(13);
             DUE.octets(z, P, 9, 1, 0, 4);
-            z.put(0, 1, 255L);
+            z.put(0, 8, -1L);
             Setting.again(z, 0);
             DUE.is("key(254), no TABLE", z.key(254), 0);
         }

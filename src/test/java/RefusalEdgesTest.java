@@ -82,7 +82,7 @@ final class RefusalEdgesTest {
         Due.lay(z, T + 1, 0);
         z.begin(T, P);
         Due.press(z, "\u0081\u0081x");
-        z.script('k');
+        z.script(' ');
         z.script(13);
         z.script('l');
         z.timed(10, 2);
