@@ -102,6 +102,12 @@ final class DictionaryEdgesTest {
                 DUE.is("look, the last of " + counts[i], z.look(FROM, 1, D), D + 4 * sizes[i]);
             }
         }
+        for (int size : new int[] {0, 1, 255}) {
+            ZInput z = withWord(3);
+            Due.lay(z, D, 0, size, 0, 0);
+            Setting.word(z, D + 4, "a");
+            DUE.is("look, none of SIZE " + size, z.look(FROM, 1, D), 0);
+        }
         for (int count : new int[] {32767, 32768, 32769}) {
             ZInput z = withWord(3);
             z.put(D + 2, 2, count);
@@ -193,6 +199,11 @@ final class DictionaryEdgesTest {
         DUE.is("look, the first, too", z.look(FROM, 1, D), D + 4);
         Setting.dictionary(z, D, "", 7, "b", "c", "d", "e", "a");
         DUE.is("look, the last", z.look(FROM, 1, D), D + 32);
+        // What stands a SIZE before the first, or behind the last, is none.
+        Setting.dictionary(z, D, "", 255, "b", "c");
+        Setting.word(z, D + 4 - 255, "a");
+        Setting.word(z, D + 4 + 2 * 255, "a");
+        DUE.is("look, before and behind them", z.look(FROM, 1, D), 0);
         // WORDS that are PACKED alike have the same ENTRY.
         Setting.dictionary(z, D, "", 7, "abcdef");
         Due.lay(z, FROM, "abcdefzz");

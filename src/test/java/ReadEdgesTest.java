@@ -30,6 +30,7 @@ final class ReadEdgesTest {
         laidDownLate();
         linesKept();
         eightLinesKept();
+        longestLinesKept();
         echoed();
         parsedWithoutFlag();
         endedByTheKey();
@@ -483,6 +484,30 @@ final class ReadEdgesTest {
                 DUE.is("kept, before the oldest", z.kept(i - oldest + 1, 0), ZInput.BAD);
             }
         }
+    }
+
+    /** LINES of as many CODES as can be: each has its own, and no other's. */
+    private static void longestLinesKept() {
+        DUE.sentence("THE LINE is kept (the latest 8 are).");
+        ZInput z = new ZInput(5);
+        z.put(T, 1, 255L);
+        for (int i = 0; i < 11; i++) {
+            z.put(T + 1, 2, 255 * 256 + 'a' + i);
+            z.put(T + 256, 1, 'A' + i);
+            z.begin(T, 0);
+            ends(z, 13);
+            for (int k = 0; k < 8 && k <= i; k++) {
+                DUE.is("kept(" + k + ", 0)", z.kept(k, 0), 'a' + i - k);
+                DUE.is("kept(" + k + ", 254)", z.kept(k, 254), 'A' + i - k);
+            }
+            DUE.is("kept(-1, 0)", z.kept(-1, 0), ZInput.BAD);
+            DUE.is("kept(8, 0)", z.kept(8, 0), ZInput.BAD);
+        }
+        Setting.again(z, 0);
+        Due.press(z, OLDER + NEWER);
+        DUE.typed(z, "");
+        Due.press(z, NEWER);
+        DUE.typed(z, "");
     }
 
     private static void echoed() {
